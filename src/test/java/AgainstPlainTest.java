@@ -14,8 +14,9 @@ public final class AgainstPlainTest {
 
     private AgainstPlainTest(Check check, long seed) {
         random = new Random(seed);
-        int wide = random.nextInt(22) - 1;
-        int high = random.nextInt(16) - 1;
+        boolean small = seed % 2 == 1;
+        int wide = small ? 4 + random.nextInt(5) : random.nextInt(22) - 1;
+        int high = small ? 4 + random.nextInt(2) : random.nextInt(16) - 1;
         real = new ShadeRegister(wide, high);
         plain = new PlainRegister(wide, high);
         this.check = check;
@@ -25,7 +26,12 @@ public final class AgainstPlainTest {
     public static void main(String[] args) {
         Check check = new Check("AgainstPlainTest");
         for (int seed = 0; seed < RUNS; seed++) {
-            new AgainstPlainTest(check, seed).calls();
+            AgainstPlainTest test = new AgainstPlainTest(check, seed);
+            if (seed % 2 == 0) {
+                test.calls();
+            } else {
+                test.market();
+            }
         }
         AgainstPlainTest texts = new AgainstPlainTest(check, RUNS);
         for (int i = 0; i < TEXTS; i++) {
@@ -118,6 +124,46 @@ public final class AgainstPlainTest {
                 i += 10;
             } else {
                 stallsAndWalks(random.nextInt(7));
+            }
+        }
+    }
+
+    /** A small ground in deep shade with stalls and a tariff that asks for much, and mostly calls about these. */
+    private void market() {
+        for (int i = 0; i < 4; i++) {
+            due("person", real.person(), plain.person());
+        }
+        for (int month = 0; month < 12; month++) {
+            for (int hour = 0; hour < 12; hour++) {
+                int ux = 40 * (random.nextInt(5) - 2);
+                int uy = 30 * (random.nextInt(5) - 2);
+                due("sun", bit(real.sun(month, hour, ux, uy)), bit(plain.sun(month, hour, ux, uy)), month, hour, ux, uy);
+            }
+        }
+        int many = random.nextInt(3) == 0 ? 16 : 2 + random.nextInt(4);
+        for (int i = 0; i < many; i++) {
+            tell(4 + random.nextInt(3));
+        }
+        for (int i = 0; i < 5; i++) {
+            due("stall", real.stall(0, 10 * i, 90), plain.stall(0, 10 * i, 90), 0, 10 * i, 90);
+            for (int hour = 0; hour < 12; hour += 1 + random.nextInt(4)) {
+                int c = cell();
+                due("place", bit(real.place(i, hour, c)), bit(plain.place(i, hour, c)), i, hour, c);
+            }
+        }
+        String[] texts = {
+            "give height*many+thing;",
+            "when hour<6 give 7-stall; when many>2 or kind=1 give height*thing; give -5;",
+            "when stall=-1 and not[month=0] give day; give 100000*100000/(many+1);"};
+        read(texts[random.nextInt(3)]);
+        for (int i = 0; i < 150; i++) {
+            int way = random.nextInt(10);
+            if (way < 5) {
+                stallsAndWalks(random.nextInt(7));
+            } else if (way < 8) {
+                ask(random.nextInt(16));
+            } else {
+                tell(random.nextInt(14));
             }
         }
     }
@@ -311,12 +357,20 @@ public final class AgainstPlainTest {
         StringBuilder made = new StringBuilder();
         int rules = random.nextInt(12) == 0 ? 18 + random.nextInt(6) : random.nextInt(5);
         for (int i = 0; i < rules; i++) {
-            rule(made, rules > 5 ? 0 : 3);
+            if (rules > 5) {
+                made.append(random.nextInt(3) == 0 ? "when 1<2give 3;" : "give 4;");
+            } else {
+                rule(made, 3);
+            }
         }
-        for (int i = random.nextInt(3); i > 0 && made.length() > 0; i--) {
+        int spoils = rules > 5 ? random.nextInt(2) : random.nextInt(3);
+        for (int i = 0; i < spoils && made.length() > 0; i++) {
             spoil(made);
         }
-        String text = made.length() > 400 ? made.substring(0, 400) : made.toString();
+        read(made.length() > 400 ? made.substring(0, 400) : made.toString());
+    }
+
+    private void read(String text) {
         for (int i = 0; i < text.length(); i += 20) {
             int[] w = new int[5];
             for (int j = 0; j < 20; j++) {
