@@ -42,6 +42,8 @@ public final class ShadeRegister {
     private static final int MIDDLE = 50;
     private static final int PARTS_OF_CELL = 27720;
     private static final int MOST_SHADERS = 12;
+    /** A set of bits that has every thing. */
+    private static final int ALL_THINGS = -1;
 
     private static final int MOST_GIVEN = 1000000;
     private static final int GIVES_REFUSED = -2000000000;
@@ -69,6 +71,7 @@ public final class ShadeRegister {
     private final Parser parser;
     private final Route route;
     private final int[] names = new int[NAMES];
+    private final int[] holders = new int[MOST_THINGS];
     private final int[] served;
     private Tariff inForce = new Tariff();
     private Tariff spare = new Tariff();
@@ -255,7 +258,8 @@ public final class ShadeRegister {
         if (things.get(thing).heightOn(day, known) == NONE) {
             return NONE;
         }
-        return holderOf(thing, day, hour, known);
+        findHolders(day, hour, known);
+        return thing < holders.length ? holders[thing] : NONE;
     }
 
     public int shaded(int cell, int day, int hour, int known) {
@@ -408,7 +412,8 @@ public final class ShadeRegister {
             int cell = s.cellIn(hour);
             if (cell != NONE) {
                 scene.turnTo(hour);
-                sum += chargeOf(cell, hour, stall, person);
+                int asked = person == NONE ? ALL_THINGS : heldBy(person, day, hour, today);
+                sum += chargeOf(cell, hour, stall, asked);
             }
         }
         return sum;
@@ -563,26 +568,27 @@ public final class ShadeRegister {
         return nearest;
     }
 
-    private int holderOf(int thing, int day, int hour, int known) {
-        if (!isThing(thing)) {
-            return NONE;
+    /** Fills the row of holders: one pass over the grants serves all things at once. */
+    private void findHolders(int day, int hour, int known) {
+        for (int i = 0; i < things.size() && i < holders.length; i++) {
+            holders[i] = things.get(i).owner;
         }
-        int holder = things.get(thing).owner;
         for (int i = 0; i < grants.size(); i++) {
             Grant g = grants.get(i);
-            boolean fromHolder = g.thing == thing && g.giver == holder && g.told <= known;
-            if (fromHolder && g.covers(day, hour) && g.holdsOn(day, known)) {
-                holder = g.taker;
+            int thing = g.thing;
+            boolean fromHolder = thing >= 0 && thing < holders.length && holders[thing] == g.giver;
+            if (fromHolder && g.told <= known && g.covers(day, hour) && g.holdsOn(day, known)) {
+                holders[thing] = g.taker;
             }
         }
-        return holder;
     }
 
     /** The things whose shade a person holds, as a set of bits. */
     private int heldBy(int person, int day, int hour, int known) {
+        findHolders(day, hour, known);
         int held = 0;
-        for (int i = 0; i < things.size(); i++) {
-            if (holderOf(i, day, hour, known) == person) {
+        for (int i = 0; i < things.size() && i < holders.length; i++) {
+            if (holders[i] == person) {
                 held |= 1 << i;
             }
         }
@@ -610,19 +616,20 @@ public final class ShadeRegister {
         return sum * DAYS_OF_MONTH;
     }
 
-    /** What a cell costs on the day and in the hour that the scene shows: to one person, or to all (NONE). */
-    private long chargeOf(int cell, int hour, int stall, int person) {
+    /**
+     * What a cell costs on the day and in the hour that the scene shows, by those of the things that shade it
+     * that are asked about (a set of bits).
+     */
+    private long chargeOf(int cell, int hour, int stall, int asked) {
         int shaders = scene.shadersOf(cell);
-        int day = scene.day;
         names[NAME_HOUR] = hour;
-        names[NAME_MONTH] = monthOf(day);
-        names[NAME_DAY] = day;
+        names[NAME_MONTH] = monthOf(scene.day);
+        names[NAME_DAY] = scene.day;
         names[NAME_MANY] = Integer.bitCount(shaders);
         names[NAME_STALL] = stall;
         long sum = 0;
         for (int i = 0; i < things.size() && shaders != 0; i++) {
-            boolean shades = (shaders >> i & 1) != 0;
-            if (shades && (person == NONE || holderOf(i, day, hour, today) == person)) {
+            if ((shaders & asked & 1 << i) != 0) {
                 names[NAME_HEIGHT] = scene.heightOf(i);
                 names[NAME_KIND] = things.get(i).kind;
                 names[NAME_THING] = i;
@@ -656,7 +663,7 @@ public final class ShadeRegister {
                 int next = last ? cell : route.bestNext(cell);
                 if (route.leadsOn(next)) {
                     int sunny = scene.shadersOf(cell) == 0 ? 1 : 0;
-                    route.lead(hour, cell, next, sunny, chargeOf(cell, hour, NONE, NONE));
+                    route.lead(hour, cell, next, sunny, chargeOf(cell, hour, NONE, ALL_THINGS));
                 }
             }
         }
@@ -1064,16 +1071,19 @@ public final class ShadeRegister {
 
         /** A shadow runs straight: where it leaves the ground it doesn't come back. Its own cell is built on. */
         private void castShadow(int thing, int from, int stepX, int stepY) {
+            int right = HUNDREDTHS * ground.wide;
+            int bottom = HUNDREDTHS * ground.high;
+            int highest = heightOf(thing);
             int x = HUNDREDTHS * ground.columnOf(from) + MIDDLE;
             int y = HUNDREDTHS * ground.rowOf(from) + MIDDLE;
-            int highest = heightOf(thing);
-            boolean onGround = true;
-            for (int j = 1; j <= highest && onGround; j++) {
+            for (int j = 1; j <= highest; j++) {
                 x += stepX;
                 y += stepY;
-                int cell = x < 0 || y < 0 ? NONE : ground.cellAt(x / HUNDREDTHS, y / HUNDREDTHS);
-                onGround = cell != NONE;
-                if (isOpen(cell)) {
+                if (x < 0 || x >= right || y < 0 || y >= bottom) {
+                    return;
+                }
+                int cell = y / HUNDREDTHS * ground.wide + x / HUNDREDTHS;
+                if (cell < built.length && !built[cell]) {
                     shaders[cell] |= 1 << thing;
                 }
             }
@@ -1108,7 +1118,9 @@ public final class ShadeRegister {
         long partsOfAll(int held) {
             long sum = 0;
             for (int cell = 0; cell < shaders.length; cell++) {
-                sum += partsOf(held, cell);
+                if ((shaders[cell] & held) != 0) {
+                    sum += partsOf(held, cell);
+                }
             }
             return sum;
         }
@@ -1546,13 +1558,16 @@ public final class ShadeRegister {
         }
 
         private static long bounded(long value) {
-            return Math.max(-MOST, Math.min(MOST, value));
+            if (value > MOST) {
+                return MOST;
+            }
+            return value < -MOST ? -MOST : value;
         }
     }
 
     /**
      * Reads a tape's tokens into a tariff. After a fault no token fits any more, so every method runs out
-     * by itself and the first fault stays. Depth is how many of ( [ not and single - are open.
+     * by itself, and the first fault and its place stay. Depth is how many of ( [ not and single - are open.
      */
     private static final class Parser {
         private static final int MISPLACED = 1;
@@ -1585,13 +1600,15 @@ public final class ShadeRegister {
             for (int i = 0; i <= MOST_RULES && kind != Tape.END && faultKind == 0; i++) {
                 rule();
             }
+            if (faultKind != 0) {
+                faultPlace = tape.startOf(at);
+            }
             return faultKind == 0;
         }
 
         private void fail(int fault) {
             if (faultKind == 0) {
                 faultKind = fault;
-                faultPlace = tape.startOf(at);
                 kind = Tape.BAD;
             }
         }
@@ -1669,20 +1686,16 @@ public final class ShadeRegister {
                     pass(Tape.CLOSE_ASK);
                 }
             } else {
-                compare(depth);
+                sum(depth);
+                int sign = kind;
+                if (sign >= Tape.LESS && sign <= Tape.UNLIKE) {
+                    advance();
+                    sum(depth);
+                    target.add(sign, 0);
+                } else {
+                    fail(MISPLACED);
+                }
             }
-        }
-
-        private void compare(int depth) {
-            sum(depth);
-            int sign = kind;
-            if (sign < Tape.LESS || sign > Tape.UNLIKE) {
-                fail(MISPLACED);
-                return;
-            }
-            advance();
-            sum(depth);
-            target.add(sign, 0);
         }
 
         private void sum(int depth) {
