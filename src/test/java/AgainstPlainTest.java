@@ -2,7 +2,7 @@ import java.util.Random;
 
 /** Long runs of calls, by numbers from fixed seeds, asked of ShadeRegister and of PlainRegister alike. */
 public final class AgainstPlainTest {
-    private static final int RUNS = 400;
+    private static final int RUNS = 1000;
     private static final int CALLS = 512;
     private static final int TEXTS = 6000;
 

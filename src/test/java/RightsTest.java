@@ -140,6 +140,10 @@ public final class RightsTest {
         due("month 4", x.holder(0, 120, 7, 0), 2);
         due("month 6", x.holder(0, 209, 7, 0), 2);
         due("month 7", x.holder(0, 210, 7, 0), 0);
+        x.grant(0, 3, 0, 16 * 9 + 9, 16 * 8 + 8, 0, 3599, 0);
+        due("one month alone", x.holder(0, 240, 9, 0), 3);
+        due("one month alone, ahead", x.holder(0, 239, 9, 0), 0);
+        due("one month alone, behind", x.holder(0, 270, 9, 0), 0);
     }
 
     private static void orderOfGrants() {
@@ -282,6 +286,30 @@ public final class RightsTest {
         due("beyond its own edge", x.shadow(1, 3, 4, 3), 1);
         x.sun(0, 4, -51, -51);
         due("beyond the ground's edge", x.shadow(1, 3, 4, 3), 0);
+        x.wall(17, 0, 9);
+        x.sun(0, 4, -150, 0);
+        due("right at the left edge", x.shadow(2, 3, 4, 3), 1);
+        x.sun(0, 4, -75, 0);
+        due("right at the left edge, with two", x.shaded(16, 3, 4, 3), 4);
+        x.sun(0, 4, 0, -150);
+        x.fell(1, 3);
+        x.wall(33, 0, 1);
+        due("up", x.shaded(17, 3, 4, 3), 0);
+        due("right at the upper edge", x.shaded(1, 3, 4, 3), 4);
+        x.sun(0, 5, 145, 25);
+        // From (150, 150): (1600, 400) with 10 is beyond the corner, (1455, 375) with 9 isn't.
+        due("nine, at the lower right", x.shadow(2, 3, 5, 3), 9);
+        x.raise(2, 3, 10);
+        due("ten, at the lower right", x.shadow(2, 3, 5, 3), 9);
+        x.wall(46, 0, 1);
+        x.sun(0, 5, 150, 0);
+        due("right at the right edge", x.shadow(4, 3, 5, 3), 0);
+        x.sun(0, 5, 149, 0);
+        due("the last but one hundredth", x.shadow(4, 3, 5, 3), 1);
+        x.sun(0, 5, 0, 150);
+        due("right at the lower edge", x.shadow(4, 3, 5, 3), 0);
+        x.sun(0, 5, 0, 149);
+        due("the last but one hundredth, down", x.shaded(62, 3, 5, 3), 16);
     }
 
     private static void accounts() {

@@ -110,6 +110,9 @@ public final class StallsTest {
         x.place(0, 3, NONE);
         due("given up", x.place(3, 3, 8), true);
         due("still another's", x.place(1, 3, 8), false);
+        x.place(1, 7, 20);
+        due("days that meet in one, the other way", x.place(0, 7, 20), false);
+        due("days that don't meet, the other way", x.place(3, 7, 20), true);
     }
 
     private static void placesAndThings() {
@@ -346,6 +349,18 @@ public final class StallsTest {
         due("in shade already", x.serves(0, 60), 0);
         x.raise(0, 0, 0);
         due("a wall of no height", x.serves(0, 60), 1);
+        ShadeRegister z = town();
+        z.sun(0, 0, 60, 100);
+        z.sun(0, 1, 0, -100);
+        z.stall(0, 0, 9);
+        z.place(0, 0, 21);
+        // Cell (3, 3) is shaded from (2, 2) with 1 and from (2, 1) with 2: (250 + 120, 150 + 200).
+        due("aslant, with 1", z.best(0, 1), 14);
+        due("aslant, with 2", z.best(0, 2), 8);
+        z.place(0, 1, 2);
+        due("from above and below", z.serves(0, 2), 2);
+        due("from above and below: where", z.best(0, 2), 8);
+
         ShadeRegister y = town();
         y.wall(4, 0, 0);
         y.days(5);

@@ -215,6 +215,11 @@ public final class TariffTest {
         due("without when", x.gives(3, 0, 0, 0, 0, 0), 30);
         ShadeRegister y = with("when hour=1 give 10;", 1);
         due("without such", y.gives(2, 0, 0, 0, 0, 0), 0);
+        feed(x, "give 5;");
+        due("another", x.tariff(), 1);
+        feed(x, "when hour=1 give 10;");
+        due("a third", x.tariff(), 1);
+        due("nothing is left of the first", x.gives(2, 0, 0, 0, 0, 0), 0);
     }
 
     private static void tokens() {
@@ -236,6 +241,20 @@ public final class TariffTest {
         faulty("give 1" + (char) 233 + ";", 1, 6);
         faulty("give 1" + (char) 0 + ";", 1, 6);
         faulty("givehour;", 1, 0);
+        faulty("givez 1;", 1, 0);
+        faulty("giveZ 1;", 1, 0);
+        faulty("giveA 1;", 1, 0);
+        faulty("zgive 1;", 1, 0);
+        faulty("give`1;", 1, 4);
+        faulty("give{1;", 1, 4);
+        faulty("give@1;", 1, 4);
+        faulty("give 1:", 1, 6);
+        faulty("give 1>=1;", 1, 6);
+        faulty("when 1 ] 2 give 1;", 1, 7);
+        faulty("when [1<2, give 1;", 1, 9);
+        faulty("give (1];", 1, 7);
+        faulty("give min(1;2);", 1, 10);
+        faulty("give 1,", 1, 6);
         faulty("give 1 2;", 1, 7);
         faulty("give 1.5;", 1, 6);
         faulty("give 1!=2;", 1, 6);
@@ -324,6 +343,9 @@ public final class TariffTest {
         faulty("give " + ten + "max(1,2)", 3, 18);
         with("give min(min(min(min(min(min(min(min(min(min(1,2),2),2),2),2),2),2),2),2),2);", 1);
         faulty("give min(min(min(min(min(min(min(min(min(min(min(", 3, 48);
+        faulty("give min(1,((((((((((2", 3, 20);
+        faulty("give max(1,-(-(-(-(-(2", 3, 20);
+        with("give max(1,((((((((( 2 ))))))))));", 1);
         // What is closed again is not open around what comes behind it.
         with("give (1)+(1)+(1)+(1)+(1)+(1)+(1)+(1)+(1)+(1)+(1)+(1);", 1);
         with("give -1-1-1-1-1-1-1-1-1-1-1-1+-1+-1+-1+-1+-1+-1+-1+-1+-1+-1+-1;", 1);

@@ -374,6 +374,17 @@ public final class ThingsTest {
         due("from from", y.entry(0, 1, 0), 3);
         due("on a day that is over", y.height(0, 4, 6), 5);
 
+        ShadeRegister w = new ShadeRegister(16, 12);
+        w.person();
+        w.sun(0, 0, 25, 15);
+        w.wall(16, 0, 60);
+        w.pole(20, 0, 3, 50, -25);
+        // Heights 58 to 60 have cell (15, 10) by (25, 15): (1550, 1050) with 60.
+        due("the greatest height", w.measure(0, 0, 16 * 10 + 15), 60);
+        due("the greatest height as told", w.thing(0, 4), 1);
+        // By (75, -10) from (450, 150): (675, 120) with 3, (750, 110) with 4, (825, 100) with 5, (900, 90) with 6.
+        due("by its lean", w.measure(1, 0, 16 + 7), 4);
+
         ShadeRegister z = town();
         z.sun(0, 2, 0, 0);
         z.wall(0, 0, 0);
