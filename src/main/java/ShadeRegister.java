@@ -4,7 +4,7 @@ import java.util.Arrays;
 /**
  * A register of shadows in a hot town: things and their shade, the rights in it, heights as they were
  * known on any day, stalls and their fees by a tariff, walks with least sun, and the best place for a tree.
- * The promises that the comments name by number stand in DOC.md.
+ * What each call answers stands in DOC.md, as numbered promises; words like KNOWN or OPEN are explained there.
  */
 public final class ShadeRegister {
     public static final int NONE = -1;

@@ -13,15 +13,16 @@ public final class LanguageTest {
     private static final int MOST_LINES = 60;
 
     private static final List<String> WORDS = List.of("throw", "throws", "try", "catch", "finally", "synchronized",
-        "assert", "native", "volatile", "transient", "protected", "package", "double", "float", "yield", "var", "Object",
-        "System", "Thread", "Exception", "hashCode", "toString", "java\\.io", "java\\.time", "Random", "HashMap", "Map",
-        "Set", "Iterator", "String\\.", "[a-z]+Exact");
+        "assert", "native", "volatile", "transient", "protected", "package", "var", "Object", "System\\.(?!arraycopy)",
+        "Thread", "Exception", "hashCode", "java\\.io", "java\\.time", "Random", "HashMap", "Map", "Set", "String\\.",
+        "[a-z]+Exact");
 
     public static void main(String[] args) throws IOException {
         String text = Files.readString(SOURCE, StandardCharsets.UTF_8);
         String code = withoutCommentsAndTexts(text);
         for (String word : WORDS) {
-            CHECK.holds("rule 3, 4 or 6: no " + word, !find(code, "(?<![A-Za-z])" + word + "(?![A-Za-z])"));
+            String behind = Character.isLetter(word.charAt(word.length() - 1)) ? "(?![A-Za-z])" : "";
+            CHECK.holds("rule 3, 4 or 6: no " + word, !find(code, "(?<![A-Za-z])" + word + behind));
         }
         CHECK.holds("rule 2: no lambda", !code.contains("->"));
         CHECK.holds("rule 2: no method reference", !code.contains("::"));
