@@ -2,15 +2,19 @@ import java.util.Random;
 
 /** Long runs of calls, by numbers from fixed seeds, asked of ShadeRegister and of PlainRegister alike. */
 public final class AgainstPlainTest {
-    private static final int RUNS = 1000;
+    private static final int RUNS = 1200;
+    /** An object is made for this many calls; the longest step of a run, a text, takes up to thirty. */
     private static final int CALLS = 512;
+    private static final int CALLS_OF_STEP = 30;
     private static final int TEXTS = 6000;
+    private static final int TEXTS_OF_ONE = CALLS / CALLS_OF_STEP;
 
     private final Random random;
     private final ShadeRegister real;
     private final PlainRegister plain;
     private final Check check;
     private final String run;
+    private int asked;
 
     private AgainstPlainTest(Check check, long seed) {
         random = new Random(seed);
@@ -33,14 +37,21 @@ public final class AgainstPlainTest {
                 test.market();
             }
         }
-        AgainstPlainTest texts = new AgainstPlainTest(check, RUNS);
-        for (int i = 0; i < TEXTS; i++) {
-            texts.text();
+        for (int i = 0; i < TEXTS; i += TEXTS_OF_ONE) {
+            AgainstPlainTest texts = new AgainstPlainTest(check, RUNS + i);
+            for (int j = 0; j < TEXTS_OF_ONE; j++) {
+                texts.text();
+            }
         }
         check.end();
     }
 
+    private boolean hasCallsLeft() {
+        return asked + CALLS_OF_STEP <= CALLS;
+    }
+
     private void due(String call, long got, long want, int... args) {
+        asked++;
         StringBuilder told = new StringBuilder(run).append(call);
         for (int arg : args) {
             told.append(' ').append(arg);
@@ -113,7 +124,7 @@ public final class AgainstPlainTest {
         for (int i = 0; i < 3; i++) {
             due("person", real.person(), plain.person());
         }
-        for (int i = 3; i < CALLS; i++) {
+        while (hasCallsLeft()) {
             int way = random.nextInt(100);
             if (way < 38) {
                 tell(random.nextInt(14));
@@ -121,7 +132,6 @@ public final class AgainstPlainTest {
                 ask(random.nextInt(16));
             } else if (way < 92) {
                 text();
-                i += 10;
             } else {
                 stallsAndWalks(random.nextInt(7));
             }
@@ -156,7 +166,7 @@ public final class AgainstPlainTest {
             "when hour<6 give 7-stall; when many>2 or kind=1 give height*thing; give -5;",
             "when stall=-1 and not[month=0] give day; give 100000*100000/(many+1);"};
         read(texts[random.nextInt(3)]);
-        for (int i = 0; i < 150; i++) {
+        for (int i = 0; i < 150 && hasCallsLeft(); i++) {
             int way = random.nextInt(10);
             if (way < 5) {
                 stallsAndWalks(random.nextInt(7));
